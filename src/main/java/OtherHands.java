@@ -312,7 +312,7 @@ public final class OtherHands {
       friends[plan.second[m]] |= 1 << plan.first[m];
     }
     // Each ring is walked both ways round.
-    return rounds(person, person, 1 << person, n - 1) / 2;
+    return rounds(friends, person, person, 1 << person, n - 1) / 2;
   }
 
   public int never(int person, int n) {
@@ -344,7 +344,16 @@ public final class OtherHands {
       return NONE;
     }
     int all = (1 << Math.min(now.plan.meetings, DOUBTED_MOST)) - 1;
-    findPossible(all);
+    for (int were = 0; were <= all; were++) {
+      possible[were] = true;
+    }
+    for (int i = 0; i < now.plan.coins; i++) {
+      int told = now.coins[i].told;
+      if (told != NONE) {
+        layWays(i);
+        strikeOut(all, told == 1);
+      }
+    }
     int sets = 0;
     int always = all;
     int ever = 0;
@@ -487,30 +496,17 @@ public final class OtherHands {
   }
 
   /** How many walks go from one of the PEOPLE by so many more, none seen before, to the start. */
-  private int rounds(int start, int at, int seen, int left) {
+  private static int rounds(int[] friends, int start, int at, int seen, int left) {
     if (left <= 0) {
       return has(friends[at], start) ? 1 : 0;
     }
     int sum = 0;
-    for (int next = 0; next < PEOPLE_MOST; next++) {
+    for (int next = 0; next < friends.length; next++) {
       if (has(friends[at] & ~seen, next)) {
-        sum += rounds(start, next, seen | 1 << next, left - 1);
+        sum += rounds(friends, start, next, seen | 1 << next, left - 1);
       }
     }
     return sum;
-  }
-
-  /** Leaves those sets of the doubted MEETINGS by which all COINS are as told. */
-  private void findPossible(int all) {
-    for (int were = 0; were <= all; were++) {
-      possible[were] = true;
-    }
-    for (int i = 0; i < now.plan.coins; i++) {
-      if (now.coins[i].told != NONE) {
-        layWays(i);
-        strikeOut(all, now.coins[i].told == 1);
-      }
-    }
   }
 
   /** Strikes out the sets by which the COIN whose ways are laid would not be as told. */
@@ -627,6 +623,26 @@ public final class OtherHands {
       return true;
     }
 
+    /** Which of some words, each with a blank behind it, from 1 on; 0: none of these. */
+    int whichWord(String words) {
+      int length = kind == WORD ? behind - place : 0;
+      int which = 1;
+      int same = 0;
+      for (int i = 0; i < words.length(); i++) {
+        char c = words.charAt(i);
+        if (c == ' ') {
+          if (length > 0 && same == length) {
+            return which;
+          }
+          which++;
+          same = 0;
+        } else {
+          same = same >= 0 && same < length && bytes[place + same] == c ? same + 1 : NONE;
+        }
+      }
+      return 0;
+    }
+
     /** Keeps the first fault alone. */
     void fail(int what) {
       if (fault == 0) {
@@ -679,6 +695,12 @@ public final class OtherHands {
   /** Reads a TOWN off the TAPE. */
   private static final class TownReader {
     private static final int CLAUSES_MOST = 40;
+    /** Each word has a blank behind it, and stands in the place that its number says. */
+    private static final String KINDS = "people year coin meet ";
+    private static final int PEOPLE = 1;
+    private static final int YEAR = 2;
+    private static final int COIN = 3;
+    private static final int MEET = 4;
     private static final int PEOPLE_LEAST = 2;
     private static final int YEAR_WITHOUT = 365;
     private static final int YEAR_MOST = 999;
@@ -713,33 +735,35 @@ public final class OtherHands {
     }
 
     private void readClause(Plan plan) {
-      boolean people = text.isWord("people");
-      boolean year = text.isWord("year");
-      boolean coin = text.isWord("coin");
-      boolean meet = text.isWord("meet");
-      if (!people && !year && !coin && !meet) {
+      int kind = text.whichWord(KINDS);
+      if (kind == 0) {
         text.fail(Text.MISPLACED);
         return;
       }
-      boolean tooMany = people != (clauses == 0) || clauses >= CLAUSES_MOST;
-      tooMany |= year && yearTold;
-      tooMany |= coin && plan.coins >= COINS_MOST;
-      tooMany |= meet && plan.meetings >= MEETINGS_MOST;
+      boolean tooMany = (kind == PEOPLE) != (clauses == 0) || clauses >= CLAUSES_MOST;
+      tooMany |= kind == YEAR && yearTold;
+      tooMany |= kind == COIN && plan.coins >= COINS_MOST;
+      tooMany |= kind == MEET && plan.meetings >= MEETINGS_MOST;
       if (tooMany) {
         text.fail(Text.TOO_MANY);
         return;
       }
       clauses++;
       text.next();
-      if (people) {
-        plan.people = readNumber(PEOPLE_LEAST, PEOPLE_MOST, NONE);
-      } else if (year) {
-        yearTold = true;
-        plan.year = readNumber(1, YEAR_MOST, NONE);
-      } else if (coin) {
-        readCoin(plan);
-      } else {
-        readMeeting(plan);
+      switch (kind) {
+        case PEOPLE:
+          plan.people = readNumber(PEOPLE_LEAST, PEOPLE_MOST, NONE);
+          break;
+        case YEAR:
+          yearTold = true;
+          plan.year = readNumber(1, YEAR_MOST, NONE);
+          break;
+        case COIN:
+          readCoin(plan);
+          break;
+        default:
+          readMeeting(plan);
+          break;
       }
     }
 
@@ -774,6 +798,8 @@ public final class OtherHands {
 
   /** A RULE: the TESTS of its CLAUSES, each as a code in which what is joined stands ahead. */
   private static final class Rule {
+    /** Each word has a blank behind it, and stands in the place that its number says. */
+    static final String KINDS = "pay bar home ";
     static final int PAY = 1;
     static final int BAR = 2;
     static final int HOME = 3;
@@ -829,7 +855,7 @@ public final class OtherHands {
       text.begin();
       boolean more = true;
       for (int i = 0; i < TAPE_MOST && more; i++) {
-        int kind = clauseKind();
+        int kind = text.whichWord(Rule.KINDS);
         if (kind == 0) {
           text.fail(Text.MISPLACED);
         } else if (clauses >= CLAUSES_MOST) {
@@ -856,16 +882,6 @@ public final class OtherHands {
       return new Rule(itsCode, Arrays.copyOf(kinds, clauses), Arrays.copyOf(ends, clauses));
     }
 
-    private int clauseKind() {
-      if (text.isWord("pay")) {
-        return Rule.PAY;
-      }
-      if (text.isWord("bar")) {
-        return Rule.BAR;
-      }
-      return text.isWord("home") ? Rule.HOME : 0;
-    }
-
     /** The word and joins at once, or when its PART is there. */
     private void readTest(int deep) {
       boolean more = true;
@@ -887,17 +903,17 @@ public final class OtherHands {
     }
 
     private void readFact(int deep) {
-      boolean not = text.isWord("not");
-      boolean open = text.isSign('[');
-      if ((not || open) && deep >= DEEP_MOST) {
-        text.fail(Text.TOO_DEEP);
-      } else if (not) {
+      int inner = deep;
+      while (inner < DEEP_MOST && text.isWord("not")) {
+        inner++;
         text.next();
-        readFact(deep + 1);
-        emit(Asked.NOT);
+      }
+      boolean open = text.isSign('[');
+      if (inner >= DEEP_MOST && (open || text.isWord("not"))) {
+        text.fail(Text.TOO_DEEP);
       } else if (open) {
         text.next();
-        readTest(deep + 1);
+        readTest(inner + 1);
         if (text.isSign(']')) {
           text.next();
         } else {
@@ -909,6 +925,10 @@ public final class OtherHands {
         takePart(sign != 0);
         readSum();
         emit(sign);
+      }
+      // Two of the word not are none.
+      if ((inner - deep) % 2 != 0) {
+        emit(Asked.NOT);
       }
     }
 
@@ -938,7 +958,7 @@ public final class OtherHands {
 
     private void readValue() {
       boolean number = text.isNumber();
-      int value = number ? text.number : valueWord();
+      int value = number ? text.number : -text.whichWord(Asked.WORDS);
       if (number && value == NONE) {
         text.fail(Text.BAD_NUMBER);
       } else {
@@ -957,34 +977,6 @@ public final class OtherHands {
         parts++;
         text.next();
       }
-    }
-
-    private int valueWord() {
-      if (text.isWord("coin")) {
-        return Asked.COIN;
-      }
-      if (text.isWord("worth")) {
-        return Asked.WORTH;
-      }
-      if (text.isWord("age")) {
-        return Asked.AGE;
-      }
-      if (text.isWord("hands")) {
-        return Asked.HANDS;
-      }
-      if (text.isWord("strange")) {
-        return Asked.STRANGE;
-      }
-      if (text.isWord("purse")) {
-        return Asked.PURSE;
-      }
-      if (text.isWord("giver")) {
-        return Asked.GIVER;
-      }
-      if (text.isWord("taker")) {
-        return Asked.TAKER;
-      }
-      return text.isWord("day") ? Asked.DAY : 0;
     }
 
     private int compareSign() {
@@ -1027,6 +1019,9 @@ public final class OtherHands {
 
   /** The WORDS as they stand for one question, and what a TEST answers to it. */
   private static final class Asked {
+    /** Each word has a blank behind it, and stands in the place that its number says. */
+    static final String WORDS = "coin worth age hands strange purse giver taker day ";
+
     // Entries of a code: a NUMBER is itself, all others are below 0.
     static final int COIN = -1;
     static final int WORTH = -2;

@@ -1,4 +1,6 @@
 import java.nio.charset.StandardCharsets;
+import java.util.ArrayList;
+import java.util.List;
 
 /** What the tests share: answers that are due, and texts brought onto the TAPE. */
 final class Check {
@@ -25,19 +27,27 @@ final class Check {
     }
   }
 
+  /** A text as feed takes it, five numbers of four bytes a call. */
+  static List<int[]> fives(String text) {
+    byte[] bytes = text.getBytes(StandardCharsets.ISO_8859_1);
+    List<int[]> list = new ArrayList<>();
+    for (int at = 0; at < bytes.length; at += 20) {
+      int[] five = new int[5];
+      for (int i = 0; i < 20 && at + i < bytes.length; i++) {
+        five[i / 4] |= (bytes[at + i] & 255) << (24 - 8 * (i % 4));
+      }
+      list.add(five);
+    }
+    return list;
+  }
+
   /** Puts a text onto the TAPE in place of what it has. */
   static void put(OtherHands x, String text) {
     x.end(0);
-    byte[] bytes = text.getBytes(StandardCharsets.ISO_8859_1);
-    for (int at = 0; at < bytes.length; at += 20) {
-      int[] five = new int[5];
-      for (int i = 0; i < 20; i++) {
-        int b = at + i < bytes.length ? bytes[at + i] & 255 : 0;
-        five[i / 4] |= b << (24 - 8 * (i % 4));
-      }
-      x.feed(five[0], five[1], five[2], five[3], five[4]);
+    for (int[] f : fives(text)) {
+      x.feed(f[0], f[1], f[2], f[3], f[4]);
     }
-    x.end(bytes.length);
+    x.end(text.length());
   }
 
   static int town(OtherHands x, String text) {

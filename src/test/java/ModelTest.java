@@ -1,4 +1,3 @@
-import java.nio.charset.StandardCharsets;
 import java.util.ArrayList;
 import java.util.List;
 import java.util.Random;
@@ -40,10 +39,10 @@ public final class ModelTest {
 
   private String town() {
     int people = 2 + below(below(3) == 0 ? 9 : 4);
-    int span = new int[] {3, 10, 40, 400, 1990}[below(5)];
+    int span = new int[] {2, 4, 6, 10, 30, 400, 1990}[below(7)];
     List<String> clauses = new ArrayList<>();
     if (below(4) != 0) {
-      clauses.add("year " + (1 + below(below(2) == 0 ? 12 : 500)));
+      clauses.add("year " + (1 + below(below(3) == 0 ? 12 : 500)));
     }
     for (int i = below(9); i > 0; i--) {
       clauses.add("coin " + (1 + below(99)) + " " + below(people) + " " + below(Math.min(1000, below(2) == 0 ? 1 : span)));
@@ -138,15 +137,10 @@ public final class ModelTest {
 
   private void put(String text) {
     due("end(0)", x.end(0), model.end(0));
-    byte[] bytes = text.getBytes(StandardCharsets.ISO_8859_1);
-    for (int at = 0; at < bytes.length; at += 20) {
-      int[] f = new int[5];
-      for (int i = 0; i < 20 && at + i < bytes.length; i++) {
-        f[i / 4] |= (bytes[at + i] & 255) << (24 - 8 * (i % 4));
-      }
+    for (int[] f : Check.fives(text)) {
       due("feed", x.feed(f[0], f[1], f[2], f[3], f[4]), model.feed(f));
     }
-    due("end(" + bytes.length + ") \"" + text + "\"", x.end(bytes.length), model.end(bytes.length));
+    due("end(" + text.length() + ") \"" + text + "\"", x.end(text.length()), model.end(text.length()));
   }
 
   private void call() {
@@ -156,13 +150,18 @@ public final class ModelTest {
     int rule = about(x.count(5));
     int days = below(10) == 0 ? about(402) : 1 + below(12);
     int what = about(3);
+    if (below(3) == 0) {
+      lively(below(Math.max(1, x.count(1))));
+      return;
+    }
     switch (below(35)) {
       case 0 -> due("coin(" + coin + "," + what + ")", x.coin(coin, what), model.coin(coin, what));
       case 1 -> due("meeting(" + meeting + "," + what + ")", x.meeting(meeting, what), model.meeting(meeting, what));
       case 2 -> due("person(" + person + "," + what + ")", x.person(person, what), model.person(person, what));
       case 3, 4, 5, 6, 7 -> due("pay(" + coin + "," + person + ")", x.pay(coin, person), model.pay(coin, person));
       case 8, 9 -> due("home(" + coin + ")", x.home(coin), model.home(coin));
-      case 10 -> due("rest(" + days + ")", x.rest(days), model.rest(days));
+      case 10 -> due("rest(" + days % 3 + ")", x.rest(days % 3), model.rest(days % 3));
+      case 33 -> due("rest(" + days + ")", x.rest(days), model.rest(days));
       case 11 -> due("run(" + rule + "," + days + ")", x.run(rule, days), model.run(rule, days));
       case 12 -> due("ahead(" + rule + "," + days + "," + what + ")", x.ahead(rule, days, what), model.ahead(rule, days, what));
       case 13, 14 -> due("soonest(" + coin + ")", x.soonest(coin), model.soonest(coin));
@@ -197,6 +196,31 @@ public final class ModelTest {
     }
   }
 
+  /** Pays where there is a MEETING, or goes on to the next day that has one. */
+  private void lively(int coin) {
+    int to = below(10);
+    int met = x.person(x.coin(coin, 1), 2);
+    for (int i = 0; i < 10 && met > 0 && (met >> to & 1) == 0; i++) {
+      to = (to + 1) % 10;
+    }
+    if (met > 0 && below(8) != 0) {
+      due("pay(" + coin + "," + to + ")", x.pay(coin, to), model.pay(coin, to));
+      due("fewest(" + coin + ")", x.fewest(coin), model.fewest(coin));
+      return;
+    }
+    int rest = 1000;
+    for (int m = 0; m < x.count(2); m++) {
+      int ahead = x.meeting(m, 0) - x.count(3);
+      rest = ahead > 0 && ahead < rest ? ahead : rest;
+    }
+    if (rest == 1000 && below(12) == 0) {
+      due("back", x.back(met & 3), model.back(met & 3));
+      texts(true);
+    } else if (rest < 1000 && below(6) == 0) {
+      due("rest(" + rest + ")", x.rest(rest), model.rest(rest));
+    }
+  }
+
   private void state() {
     int what = below(14) - 1;
     due("count(" + what + ")", x.count(what), model.count(what));
@@ -206,8 +230,8 @@ public final class ModelTest {
     }
   }
 
-  private void texts() {
-    if (below(2) == 0) {
+  private void texts(boolean town) {
+    if (town) {
       put(town());
       due("town()", x.town(), model.town());
     } else {
@@ -228,9 +252,9 @@ public final class ModelTest {
       int more = below(400) + (rests == 19 ? 800 : 1);
       due("rest(" + more + ")", x.rest(more), model.rest(more));
     }
-    while (calls < CALLS - 60 && !wrong) {
-      if (below(30) == 0 || x.count(0) == 0 || x.count(5) < 2) {
-        texts();
+    for (int step = 0; step < 4 * CALLS && calls < CALLS - 60 && !wrong; step++) {
+      if (below(x.count(2) > 0 ? 60 : 10) == 0 || x.count(0) == 0 || x.count(5) < 2) {
+        texts(below(2) == 0);
       } else {
         call();
       }

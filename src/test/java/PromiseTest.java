@@ -298,6 +298,18 @@ public final class PromiseTest {
     Check.rule(x, "bar age < 2");
     x.force(2);
     due("15: age of that day", x.soonest(0), 2);
+    // On its way it is in no purse but the one that it is in now.
+    x = Check.in("people 3;coin 5 0 0;coin 5 1 0;coin 5 1 0;meet 0 0 1;meet 1 0 1;meet 2 1 2");
+    x.pay(0, 1);
+    x.pay(0, 0);
+    x.rest(1);
+    Check.rule(x, "bar giver = 1 and taker = 2 and purse = 2");
+    Check.rule(x, "bar giver = 1 and taker = 2 and not purse = 2");
+    x.force(0);
+    due("15: the giver's purse as it is now", x.soonest(0), -2);
+    x.force(1);
+    due("15: the giver's purse as it is now", x.soonest(0), 2);
+    due("16: by two", x.fewest(0), 2);
     // NEW but barred on this day: a later day is no day for it without a payment.
     x = Check.in("people 2;coin 5 0 0;meet 0 0 1");
     x.pay(0, 1);
@@ -539,6 +551,14 @@ public final class PromiseTest {
     due("TEST: " + test, x.pay(1, 2), want ? -5 : 0);
   }
 
+  /** An age below 0 is the only VALUE below 0, by which / can be told from floorDiv. */
+  private static void ageBelow() {
+    OtherHands x = Check.in("people 2;coin 7 0 3;meet 0 0 1");
+    Check.rule(x, "bar age=0-3 and age/2=0-1");
+    x.force(0);
+    due("TEST: age below 0", x.pay(0, 1), -5);
+  }
+
   private static void tests() {
     bars("coin=1 and worth=9 and age=2 and hands=1 and strange=1 and purse=2 and giver=1 and taker=2 and day=5", true);
     bars("1=1 or 1=1 and 1=2", true);
@@ -552,6 +572,7 @@ public final class PromiseTest {
     bars("24/4/3=2", true);
     bars("7/2=3", true);
     bars("0-7/2=0-3", true);
+    bars("age/2=0-1", false);
     bars("taker-giver*8/2=0-2", true);
     bars("5/0=0", true);
     bars("0/0=0", true);
@@ -593,6 +614,7 @@ public final class PromiseTest {
     promise26();
     promise27and28();
     tests();
+    ageBelow();
     CHECK.close();
   }
 }
