@@ -76,10 +76,11 @@ public final class OtherHands {
 
   public int town() {
     Plan plan = townReader.read();
+    // A text with a fault is taken off the tape, too.
+    tape.size = 0;
     if (plan == null) {
       return CANT - tape.fault;
     }
-    tape.size = 0;
     now.begin(plan);
     return plan.coins;
   }
@@ -89,10 +90,10 @@ public final class OtherHands {
       return NONE;
     }
     Rule made = ruleReader.read();
+    tape.size = 0;
     if (made == null) {
       return CANT - tape.fault;
     }
-    tape.size = 0;
     rules[ruleCount] = made;
     ruleCount++;
     return ruleCount - 1;

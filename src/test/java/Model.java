@@ -521,13 +521,13 @@ final class Model {
   int town() {
     State made = new State();
     int fault = townFault(text(), made);
+    tape.clear();
     if (fault != 0) {
       return -2 - fault;
     }
     made.force = s.force;
     made.x = s.x;
     s = made;
-    tape.clear();
     return s.coins.size();
   }
 
@@ -537,10 +537,10 @@ final class Model {
     }
     List<Clause> made = new ArrayList<>();
     int fault = ruleFault(text(), made);
+    tape.clear();
     if (fault != 0) {
       return -2 - fault;
     }
-    tape.clear();
     rules.add(made);
     return rules.size() - 1;
   }

@@ -238,6 +238,7 @@ public final class ModelTest {
       put(rule());
       due("rule()", x.rule(), model.rule());
     }
+    due("count(10)", x.count(10), model.count(10));
   }
 
   private void run() {

@@ -62,8 +62,11 @@ public final class PromiseTest {
     due("4: homecomings", x.count(4), 1);
     Check.put(x, "people 1");
     due("4: town with a fault", x.town(), -2 - (1 + 8 * 7 + 1));
-    due("4: stays", x.count(4), 1);
-    due("4: the TAPE stays", x.count(10), 8);
+    int[] stays = {3, 1, 1, 2, 1, 1, 0, 20, 1, 77, 0, 0};
+    for (int what = 0; what < stays.length; what++) {
+      due("4: stays, but for the TAPE: count(" + what + ")", x.count(what), stays[what]);
+    }
+    due("4: the TAPE begins anew", x.feed(0, 0, 0, 0, 0), 20);
     due("4: town", Check.town(x, "people 4;coin 7 3 9;coin 8 2 0"), 2);
     int[] wants = {4, 2, 0, 0, 0, 1, 0, 365, 0, 77, 0, 0};
     for (int what = 0; what < wants.length; what++) {
@@ -75,6 +78,9 @@ public final class PromiseTest {
   private static void promise5and6() {
     OtherHands x = new OtherHands();
     due("6: none such", x.force(0), -2);
+    due("5: rule with a fault", Check.rule(x, "bar 1"), Check.fault(5, 0));
+    due("5: no RULE is made", x.count(5), 0);
+    due("5: the TAPE is empty", x.count(10), 0);
     for (int i = 0; i < 6; i++) {
       due("5: rule", Check.rule(x, "bar 1=" + i), i);
     }
