@@ -121,7 +121,7 @@ final class Check {
     x.home(0);
     x.pay(1, 2);
     x.came(0, 1);
-    x.came(1, 0);
+    x.came(1, 1);
     x.feed(1, 2, 3, 4, 5);
     return x;
   }
