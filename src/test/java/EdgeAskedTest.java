@@ -68,6 +68,11 @@ public final class EdgeAskedTest {
     x.rest(1);
     due("gone by", x.soonest(0), -2);
     due("gone by", x.fewest(0), -2);
+    due("by one, asked at first", Check.in("people 2;coin 1 0 0;meet 4 0 1").fewest(0), 1);
+    x = Check.in("people 2;coin 1 0 0;coin 1 1 0;meet 4 0 1;meet 400 1 0");
+    x.pay(0, 1);
+    due("one", x.soonest(0), 4);
+    due("the other one", x.fewest(1), 1);
     due("on day 0", Check.in("people 2;coin 1 1 0;meet 0 0 1").soonest(0), 0);
     due("on day 1999", Check.in("people 2;year 999;coin 1 1 999;meet 1998 0 1;meet 1999 0 1").soonest(0), 1998);
     due("VOID on day 1999", Check.in("people 2;year 999;coin 1 1 999;meet 1999 0 1").soonest(0), -2);
@@ -110,6 +115,27 @@ public final class EdgeAskedTest {
       due("lost" + later[i], x.lost(), day[i] < 0 ? 1 : 0);
     }
 
+    OtherHands y = Check.in("people 3;coin 1 0 0;meet 9 1 2;meet 8 0 1");
+    due("the first told is the later one", y.soonest(0), 8);
+    due("it comes behind", y.dear(1), 1);
+    y = Check.in("people 2;coin 1 0 0;meet 9 0 1;meet 8 0 1;meet 7 0 1");
+    due("the last told is the first", y.soonest(0), 7);
+
+    CHECK.says("SOONEST: at MEETINGS, from the one to the other or back (it may stay where it is, too)");
+    String known = "people 4;coin 1 0 0;meet 0 0 1;";
+    String[] ways = {"meet 3 0 1;meet 4 0 2", "meet 3 1 0;meet 4 0 2", "meet 3 0 1;meet 4 1 2", "meet 3 1 0;meet 4 1 2",
+        "meet 3 0 1;meet 4 2 0", "meet 3 1 0;meet 4 2 0", "meet 3 0 1;meet 4 2 1", "meet 3 1 0;meet 4 2 1"};
+    for (int i = 0; i < ways.length; i++) {
+      y = Check.in(known + ways[i]);
+      y.pay(0, 1);
+      y.pay(0, 0);
+      y.rest(1);
+      due("by " + ways[i], y.fewest(0), i % 4 < 2 ? 1 : 2);
+      due("by " + ways[i], y.soonest(0), 4);
+      due("the first of these is DEAR " + ways[i], y.dear(1), i % 4 < 2 ? 0 : 1);
+      due("the second of these is DEAR " + ways[i], y.dear(2), 1);
+    }
+
     CHECK.says("SOONEST: among its HANDS till it is PAID to somebody to whom it is NEW, who brings it HOME on that very day");
     OtherHands x = barred("people 3;coin 1 0 0;meet 2 0 1;meet 3 1 2", "bar giver=1 and taker=1");
     due("not by one who is not among its HANDS", x.soonest(0), -2);
@@ -134,6 +160,16 @@ public final class EdgeAskedTest {
     due("the first of them is DEAR", x.dear(8), 6);
     due("the last of them is DEAR", x.dear(16), 6);
     due("one gone by is not", x.dear(0), 0);
+    x = Check.in("people 4;coin 6 0 0" + ";meet 1 2 3".repeat(23) + ";meet 1 1 0");
+    due("by the last of 24", x.fewest(0), 1);
+    x = Check.in("people 4;coin 1 0 0;meet 1 0 1;meet 2 0 1");
+    due("by one", x.fewest(0), 1);
+    Check.town(x, "people 4;coin 1 0 0;meet 1 2 3");
+    due("by none of another TOWN", x.fewest(0), -2);
+    due("by none of another TOWN", x.soonest(0), -2);
+    x = Check.in("people 4;coin 1 0 0;coin 1 2 0;meet 1 0 1;meet 2 0 3");
+    due("by one", x.fewest(0), 1);
+    due("by none of another COIN", x.fewest(1), -2);
 
     CHECK.says("LAW 3 is asked at each: purse: how many COINS who has it then has now");
     x = barred("people 2;coin 1 0 0;coin 1 1 0;coin 1 1 0;meet 2 0 1", "bar giver=taker and purse=2");
@@ -151,6 +187,14 @@ public final class EdgeAskedTest {
     due("as it is to be paid", x.soonest(0), 2);
     x = barred("people 2;coin 1 0 1;meet 2 0 1", "bar giver=1 and not [taker=1 and " + all + " and hands=2]");
     due("as it is to be brought home", x.soonest(0), 2);
+    for (int taker = 0; taker < 3; taker++) {
+      if (taker != 1) {
+        x = barred("people 3;coin 1 1 1;meet 2 1 " + taker, "bar giver=taker and not hands=2");
+        due("HANDS with the one who brings it home, " + taker, x.soonest(0), 2);
+        x = barred("people 3;coin 1 1 1;meet 2 " + taker + " 1", "bar not giver=taker and not hands=1");
+        due("HANDS without the one who is to get it, " + taker, x.soonest(0), 2);
+      }
+    }
   }
 
   private static void lostAndStrangers() {
@@ -237,6 +281,12 @@ public final class EdgeAskedTest {
     x = Check.in("people 3;meet 0 0 1;meet 1 1 0;meet 2 1 2;meet 3 2 1;meet 4 2 0;meet 5 0 2");
     due("they meet often, it is one", x.rings(3, 0), 1);
     due("more than there are", x.rings(4, 0), 0);
+    x = Check.in("people 10;meet 0 0 1;meet 0 1 2;meet 0 2 0");
+    due("one", x.rings(3, 0), 1);
+    Check.town(x, "people 10;meet 0 0 1;meet 0 1 2;meet 0 2 3");
+    due("none of another TOWN", x.rings(3, 0), 0);
+    Check.town(x, "people 10;meet 1999 2 0;meet 0 0 1" + ";meet 0 7 8".repeat(21) + ";meet 5 1 2");
+    due("by the last of 24", x.rings(3, 0), 1);
     due("two alone", Check.in("people 2;meet 0 0 1;meet 0 1 0").rings(3, 0), 0);
     due("no MEETINGS", Check.in("people 3").rings(3, 0), 0);
     due("one short", Check.in("people 3;meet 0 0 1;meet 1 1 2").rings(3, 0), 0);
@@ -318,6 +368,40 @@ public final class EdgeAskedTest {
     x.came(0, 0);
     metIs(x, 0, 0, 0);
 
+    CHECK.says("23: MEETINGS in all of these, in none, as bits");
+    x = Check.in("people 3;coin 1 0 0;coin 1 2 0;meet 1 0 1;meet 2 1 0;meet 3 2 1");
+    x.came(0, 1);
+    metIs(x, 6, 0, 0);
+    x.came(1, 1);
+    metIs(x, 3, 4, 0);
+    x.came(1, 0);
+    metIs(x, 3, 0, 4);
+    x.came(0, NONE);
+    metIs(x, 4, 0, 4);
+    x.came(0, 0);
+    metIs(x, 1, 0, 7);
+    // One of the first two MEETINGS, not both; the third one is gone by.
+    x = Check.in("people 3;coin 1 0 0;coin 1 1 0;meet 3 0 1;meet 4 1 2;meet 0 0 1");
+    x.pay(0, 1);
+    x.pay(0, 0);
+    x.rest(1);
+    x.came(0, 0);
+    x.came(1, 1);
+    metIs(x, 4, 0, 0);
+    x.came(0, 1);
+    metIs(x, 2, 3, 0);
+    x.came(1, 0);
+    metIs(x, 0, 0, 0);
+    x.came(0, 0);
+    metIs(x, 2, 0, 3);
+    x = Check.in("people 2" + ";coin 1 0 0".repeat(8) + ";meet 1 0 1");
+    for (int i = 0; i < 8; i++) {
+      x.came(i, 1);
+      metIs(x, 1, 1, 0);
+    }
+    x.came(7, 0);
+    metIs(x, 0, 0, 0);
+
     CHECK.says("23: 0 both without a set");
     x = Check.in("people 2;coin 1 0 0;coin 1 0 0;meet 1 0 1");
     x.came(0, 1);
@@ -378,6 +462,51 @@ public final class EdgeAskedTest {
     due("3 and 6", x.years(2, 1, 3, 0), 1);
   }
 
+  /** All COINS of the two who meet change purses and come home: the DRAWS alone say how many. */
+  private static void draws() {
+    CHECK.says("DRAWS: two mod PEOPLE ahead of each DAY");
+    int[] seeds = {0, 1, 12345, 65535, 65536, 1000000007, Integer.MAX_VALUE - 1, Integer.MAX_VALUE};
+    for (int people = 2; people <= 10; people++) {
+      StringBuilder sb = new StringBuilder("people ").append(people).append(";year 999");
+      for (int i = 0; i < 8; i++) {
+        sb.append(";coin 1 ").append(i * i % people).append(" 0");
+      }
+      OtherHands x = Check.in(sb.toString());
+      Check.rule(x, "pay 1=1;home 1=1");
+      for (int seed : seeds) {
+        x.seed(seed);
+        due("people " + people + ", seed " + seed, x.years(0, 2, 20, 0), homecomings(people, seed, 2, 20));
+        due("people " + people + ", seed " + seed + ", a day", x.years(0, 10, 1, 0), homecomings(people, seed, 10, 1));
+      }
+      x.seed(7);
+      due("people " + people + ", the most", x.years(0, 10, 400, 0), homecomings(people, 7, 10, 400));
+    }
+  }
+
+  private static int homecomings(int people, long seed, int m, int n) {
+    long x = seed;
+    int sum = 0;
+    for (int i = 0; i < m; i++) {
+      int[] purses = new int[people];
+      for (int k = 0; k < 8; k++) {
+        purses[k * k % people]++;
+      }
+      for (int day = 0; day < n; day++) {
+        x = (x * 1103515245 + 12345) % 2147483648L;
+        int one = (int) (x / 65536 % people);
+        x = (x * 1103515245 + 12345) % 2147483648L;
+        int other = (int) (x / 65536 % people);
+        if (one != other) {
+          sum += purses[one] + purses[other];
+          int his = purses[one];
+          purses[one] = purses[other];
+          purses[other] = his;
+        }
+      }
+    }
+    return sum;
+  }
+
   private static void years() {
     CHECK.says("YEARS: m times (1 to 10), n DAYS (1 to 400)");
     OtherHands x = Check.in("people 2;year 399" + ";coin 1 0 0".repeat(8));
@@ -396,6 +525,11 @@ public final class EdgeAskedTest {
     CHECK.says("YEARS: each from now on, all together (nothing stays; x as it was)");
     x = Check.in("people 2;coin 1 0 0");
     Check.rule(x, "pay strange=1;home 1=1");
+    // The first time 0, 0; the second time 0, 1; the third time 0, 1.
+    int[] times = {0, 1, 2, 2};
+    for (int m = 1; m <= 4; m++) {
+      due("DRAWS go on from one time to the next, times " + m, x.years(0, m, 1, 0), times[m - 1]);
+    }
     // The first time 0, 0 and 0, 1; the second time 0, 1 and 1, 1.
     due("two times", x.years(0, 2, 2, 0), 2);
     due("x", x.count(9), 0);
@@ -404,6 +538,12 @@ public final class EdgeAskedTest {
     x.rest(366);
     due("VOID now, each time", x.years(0, 10, 1, 1), 10);
     due("VOID ones are not paid", x.years(0, 10, 400, 0), 0);
+    x = Check.in("people 2;coin 1 0 0;meet 0 0 1");
+    Check.rule(x, "pay strange=1;home 1=1");
+    x.pay(0, 1);
+    due("home", x.home(0), 1);
+    x.rest(1);
+    due("those of the second and the third time, not the one of before", x.years(0, 3, 1, 0), 2);
 
     CHECK.says("YEARS: the first and the second one MEET on it, too (behind all others)");
     x = Check.in("people 3;coin 1 0 0;meet 2 1 2");
@@ -499,6 +639,7 @@ public final class EdgeAskedTest {
     never();
     met();
     seed();
+    draws();
     years();
     images();
     CHECK.close();

@@ -140,6 +140,18 @@ public final class EdgeRuleTest {
     stands("pay age=1or age=2");
     stands("pay not age=1and not age=2");
     fails("|payage=1", 0);
+    fails("|payz 1=1", 0);
+    fails("|xay 1=1", 0);
+    fails("|pa 1=1", 0);
+    fails("pay 1=1 |xnd 1=1", 0);
+    fails("pay 1=1 |an 1=1", 0);
+    fails("pay 1=1 |ands 1=1", 0);
+    fails("pay 1=1 |xr 1=1", 0);
+    fails("pay 1=1 |o 1=1", 0);
+    fails("pay 1=1 |ors 1=1", 0);
+    fails("pay |xot 1=1", 0);
+    fails("pay |nots 1=1", 0);
+    fails("pay |xorth=1", 0);
     fails("pay |ages=1", 0);
     fails("pay |ag=1", 0);
     fails("pay age|2=1", 0);
@@ -198,6 +210,14 @@ public final class EdgeRuleTest {
       holds("9" + all[i] + "worth", want[i][1]);
       holds("10" + all[i] + "worth", want[i][2]);
       holds("0-1 " + all[i] + " 0", want[i][0]);
+      for (int n = 8; n <= 10; n++) {
+        String fact = n + all[i] + "worth";
+        holds("not " + fact, !want[i][n - 8]);
+        holds(fact + " and 1=1", want[i][n - 8]);
+        holds("1=1 and " + fact, want[i][n - 8]);
+        holds(fact + " or 1=2", want[i][n - 8]);
+        holds("not [" + fact + " and " + fact + "]", !want[i][n - 8]);
+      }
     }
     fails("pay 1<|<1", 0);
     fails("pay 1<|>1", 0);
@@ -209,6 +229,13 @@ public final class EdgeRuleTest {
     fails("pay 1|", 0);
     fails("pay 1|;pay 1=1", 0);
     fails("pay 1|or 1=1", 0);
+    fails("pay 1<|", 0);
+    fails("pay 1<=|", 0);
+    OtherHands x = new OtherHands();
+    Check.put(x, "pay 1<=1");
+    due("end", x.end(6), 6);
+    due("a sign = that was cut off", x.rule(), Check.fault(6, 0));
+    fails(blanks(394) + "pay 1>|", 0);
   }
 
   private static void words() {

@@ -91,6 +91,15 @@ public final class EdgeTownTest {
     due("the bytes are those of before", x.town(), 2);
     due("end(1) behind town", x.end(1), NONE);
     due("end(0) behind town", x.end(0), 0);
+
+    CHECK.says("3: its first n bytes alone");
+    x = new OtherHands();
+    Check.put(x, "people 10;coin 1 0 0");
+    due("end", x.end(8), 8);
+    due("a digit that was cut off", x.town(), Check.fault(7, 1));
+    Check.put(x, "people 2; year 9");
+    due("end", x.end(14), 14);
+    due("a NUMBER that was cut off", x.town(), Check.fault(14, 0));
   }
 
   private static void longest() {
@@ -158,6 +167,13 @@ public final class EdgeTownTest {
     OtherHands x = Check.in("people 2;year 7");
     due("a TOWN without one behind it", Check.town(x, "people 2"), 0);
     due("365 again", x.count(7), 365);
+    due("one with a year", Check.town(x, "people 2;year 8"), 0);
+    due("once in each text", Check.town(x, "people 2;year 9"), 0);
+    due("its year", x.count(7), 9);
+    due("twice", Check.town(x, "people 2;year 3;year 4"), Check.fault(16, 4));
+    due("the year of before", x.count(7), 9);
+    due("once behind that", Check.town(x, "people 2;year 5"), 0);
+    due("its year", x.count(7), 5);
     fails("people 2;year |0", 1);
     fails("people 2;year |1000", 1);
     fails("people 2;year |000999", 1);
@@ -235,6 +251,13 @@ public final class EdgeTownTest {
     fails("|\0", 0);
     fails("|peopl 2", 0);
     fails("|peoples 2", 0);
+    fails("|peoplez 2", 0);
+    fails("|zeople 2", 0);
+    fails("people 2;|xear 9", 0);
+    fails("people|{2", 0);
+    fails("people|`2", 0);
+    fails("people |/2", 0);
+    fails("people |:2", 0);
     fails("|pay 1=1", 0);
     fails("people 2|, year 3", 0);
     fails("people 2;|", 0);
@@ -290,6 +313,15 @@ public final class EdgeTownTest {
     due("no MEETING", x.meeting(0, 0), NONE);
     due("no third of PEOPLE", x.person(2, 0), NONE);
     due("none told", x.met(0), 1);
+    x = Check.in("people 2" + ";coin 1 0 0".repeat(8) + ";meet 1 0 1");
+    for (int i = 0; i < 8; i++) {
+      x.came(i, 1);
+    }
+    due("one set", x.met(0), 1);
+    Check.town(x, "people 2;meet 1 0 1");
+    due("none told, two sets", x.met(0), 2);
+    x = Check.busy();
+    Check.town(x, "people 2;coin 1 1 999");
     due("the image stays", x.back(1), 0);
     due("the image stays", x.count(0), 3);
     x = Check.busy();
