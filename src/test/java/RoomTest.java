@@ -2,7 +2,7 @@ import com.sun.management.ThreadMXBean;
 import java.lang.management.ManagementFactory;
 import java.util.function.IntConsumer;
 
-/** What 512 calls of each kind make: the room of a run is told by LANGUAGE.md and the issues. */
+/** What 512 calls of each kind make, and 512 new objects: all calls of a run live in one room. */
 public final class RoomTest {
   private static final Check CHECK = new Check();
   private static final int CALLS = 512;
@@ -51,7 +51,36 @@ public final class RoomTest {
     within("image and back", little, i -> x.back(x.image(i % 4) * 0 + i % 4));
     within("run", little, i -> x.run(0, 9));
     within("feed", little, i -> x.feed(i, i, i, i, i));
+    within("end", little, i -> x.end(i % 400));
+    within("force", little, i -> x.force(i % 2 - 1));
+    within("coin", little, i -> x.coin(i % 8, i % 7));
+    within("meeting", little, i -> x.meeting(i % 23, i % 3));
+    within("person", little, i -> x.person(i % 10, i % 3));
+    within("rest", little, i -> x.rest(1));
+    within("came", little, i -> x.came(i % 8, i % 3 - 1));
+    within("seed and count", little, i -> x.seed(x.count(i % 12)));
     within("a TOWN with a fault", 20 * little, i -> x.town());
+    within("a RULE with a fault", little, i -> x.rule());
+    OtherHands paid = Check.in("people 2;coin 5 0 0;meet 0 0 1");
+    Check.rule(paid, "bar age*worth/hands+coin-purse*day>99999");
+    paid.force(0);
+    within("pay and home", little, i -> {
+      paid.pay(0, 1 - paid.coin(0, 1));
+      paid.home(0);
+    });
+    CHECK.due("it came HOME each time", paid.coin(0, 6), CALLS + 1);
+    OtherHands y = new OtherHands();
+    within("a TOWN", 20 * little, i -> {
+      y.feed(0x70656f70, 0x6c652032, 0x3b636f69, 0x6e203520, 0x30203020);
+      y.town();
+    });
+    CHECK.due("the TOWN stands", y.count(1), 1);
+    within("RULES", 2 * little, i -> {
+      y.feed(0x70617920, 0x313d3120, 0x20202020, 0x20202020, 0x20202020);
+      y.rule();
+    });
+    CHECK.due("the RULES stand", y.count(5), 6);
+    within("a new object", 150 * little, i -> new OtherHands().count(0));
     CHECK.close();
   }
 }
